@@ -770,9 +770,9 @@ public final class Staggershelf {
     }
   }
 
-  /** What the disks draw, the fuse, and the plan of starts (kept until one of these changes). */
+  /** What the disks draw, the fuse, and the plan of starts, made anew as one of these changes. */
   private static final class Starts {
-    // Behind these all disks draw idly, for longer than any patience lasts.
+    // From here on all disks draw idly, for longer than any patience lasts, even by the widest gap.
     private static final int LAST_TENTH = (MOST_DISKS - 1) * MOST_GAP + MOST_SPIN + MOST_PATIENCE + 1;
 
     int limit = 30;
@@ -781,18 +781,21 @@ public final class Staggershelf {
     private final int[] peaks = {10, 10, 10, 10, 10};
     private final int[] spins = {3, 3, 3, 3, 3};
     private final int[] idles = {2, 2, 2, 2, 2};
-    private boolean isPlanned;
     private int planEnd = NONE;
     private final int[] planStarts = new int[MOST_DISKS];
     private final int[] planPlaces = new int[MOST_DISKS];
     private final int[] triedStarts = new int[MOST_DISKS];
     private final int[] triedPlaces = new int[MOST_DISKS];
-    private final int[] loads = new int[LAST_TENTH + 1];
+    // By places: how many tenths ahead of the start there, one behind the other, are above the limit.
+    private final int[] triedRuns = new int[MOST_DISKS];
+    // What the disks that are placed draw idly, and how much more than that at each tenth.
+    private int idleDraw;
+    private final int[] surges = new int[LAST_TENTH + 1];
     private final int[] gapStarts = new int[MOST_DISKS];
 
     void planFor(int disksThen) {
       disks = disksThen;
-      isPlanned = false;
+      makePlan();
     }
 
     void tellKind(int disk, int peak, int spin, int idle) {
@@ -800,14 +803,14 @@ public final class Staggershelf {
         peaks[disk] = peak;
         spins[disk] = spin;
         idles[disk] = idle;
-        isPlanned = false;
+        makePlan();
       }
     }
 
     void tellFuse(int limitThen, int patienceThen) {
       limit = limitThen;
       patience = patienceThen;
-      isPlanned = false;
+      makePlan();
     }
 
     int peakOf(int disk) {
@@ -823,27 +826,22 @@ public final class Staggershelf {
     }
 
     int endOfPlan() {
-      makePlan();
       return planEnd;
     }
 
     int startInPlan(int disk) {
-      makePlan();
-      return planEnd != NONE && disk >= 0 && disk < disks ? planStarts[disk] : NONE;
+      return planEnd != NONE && disk >= 0 && disk < MOST_DISKS ? planStarts[disk] : NONE;
     }
 
     int placeInPlan(int disk) {
-      makePlan();
-      return planEnd != NONE && disk >= 0 && disk < disks ? planPlaces[disk] : NONE;
+      return planEnd != NONE && disk >= 0 && disk < MOST_DISKS ? planPlaces[disk] : NONE;
     }
 
     int drawByPlan(int tenth) {
-      makePlan();
       return planEnd == NONE ? NONE : drawBy(planStarts, tenth);
     }
 
     boolean planTrips() {
-      makePlan();
       return planEnd != NONE && trips(planStarts);
     }
 
@@ -869,7 +867,10 @@ public final class Staggershelf {
     }
 
     private int drawSince(int disk, int tenths) {
-      return tenths < spinOf(disk) ? peakOf(disk) : idleOf(disk);
+      if (disk < 0 || disk >= MOST_DISKS) {
+        return 0;
+      }
+      return tenths < spins[disk] ? peaks[disk] : idles[disk];
     }
 
     private boolean trips(int[] startsOfAll) {
@@ -884,17 +885,11 @@ public final class Staggershelf {
     }
 
     private void makePlan() {
-      if (isPlanned) {
-        return;
-      }
-      isPlanned = true;
       planEnd = NONE;
       for (int disk = 0; disk < MOST_DISKS; disk++) {
         triedPlaces[disk] = NONE;
       }
-      for (int tenth = 0; tenth < loads.length; tenth++) {
-        loads[tenth] = 0;
-      }
+      // Without this, tripsWith would have to look at the tenths behind the end, too.
       if (disks > 0 && allIdle() <= limit) {
         tryPlace(0, 0, 0);
       }
@@ -918,7 +913,7 @@ public final class Staggershelf {
         if (triedPlaces[disk] != NONE) {
           continue;
         }
-        int start = leastStart(disk, earliest, end);
+        int start = leastStart(disk, place, earliest, end);
         int endThen = Math.max(end, start + spinOf(disk));
         // An end only grows by further disks: what is not ahead of the best here never will be.
         if (start == NONE || planEnd != NONE && endThen >= planEnd) {
@@ -926,9 +921,9 @@ public final class Staggershelf {
         }
         triedPlaces[disk] = place;
         triedStarts[disk] = start;
-        addLoad(disk, start, 1);
+        addDraw(disk, start, 1);
         tryPlace(place + 1, start, endThen);
-        addLoad(disk, start, -1);
+        addDraw(disk, start, -1);
         triedPlaces[disk] = NONE;
       }
     }
@@ -941,38 +936,42 @@ public final class Staggershelf {
       }
     }
 
-    private void addLoad(int disk, int start, int times) {
-      for (int tenth = Math.max(start, 0); tenth < loads.length; tenth++) {
-        loads[tenth] += times * drawSince(disk, tenth - start);
+    private void addDraw(int disk, int start, int times) {
+      int idle = idleOf(disk);
+      int end = start + spinOf(disk);
+      idleDraw += times * idle;
+      for (int tenth = Math.max(start, 0); tenth < end && tenth < surges.length; tenth++) {
+        surges[tenth] += times * (peakOf(disk) - idle);
       }
     }
 
-    private int leastStart(int disk, int earliest, int end) {
-      int run = runAheadOf(earliest);
+    /** All that are placed have started by the earliest tenth, so that ahead of the start nothing changes. */
+    private int leastStart(int disk, int place, int earliest, int end) {
+      int run = place > 0 && place <= MOST_DISKS ? triedRuns[place - 1] : 0;
       // One tenth behind the end the others have been idle already: a later start changes nothing.
       int latest = Math.min(LATEST_START, end + 1);
-      for (int start = Math.max(earliest, 0); start <= latest && start < loads.length; start++) {
+      for (int start = Math.max(earliest, 0); start <= latest && start < surges.length; start++) {
         if (!tripsWith(disk, start, Math.max(end, start + spinOf(disk)), run)) {
+          keepRun(place, run);
           return start;
         }
-        run = loads[start] > limit ? run + 1 : 0;
+        run = idleDraw + surges[start] > limit ? run + 1 : 0;
       }
       return NONE;
     }
 
-    private int runAheadOf(int tenth) {
-      int run = 0;
-      for (int t = Math.min(tenth, loads.length) - 1; t >= 0 && loads[t] > limit; t--) {
-        run++;
+    private void keepRun(int place, int run) {
+      if (place >= 0 && place < MOST_DISKS) {
+        triedRuns[place] = run;
       }
-      return run;
     }
 
     /** Looks from its start to the end alone: ahead of it nothing trips, behind it all are idle. */
     private boolean tripsWith(int disk, int start, int end, int runAhead) {
       int run = runAhead;
-      for (int tenth = Math.max(start, 0); tenth < end && tenth < loads.length; tenth++) {
-        run = loads[tenth] + drawSince(disk, tenth - start) > limit ? run + 1 : 0;
+      for (int tenth = Math.max(start, 0); tenth < end && tenth < surges.length; tenth++) {
+        int drawn = idleDraw + surges[tenth] + drawSince(disk, tenth - start);
+        run = drawn > limit ? run + 1 : 0;
         if (run > patience) {
           return true;
         }

@@ -2,8 +2,23 @@ import java.util.Random;
 
 /** Starts and the fuse: kinds and fuses drawn by a fixed seed, the plan against all orders tried slowly. */
 public final class PlanTest {
+  /** LIMIT, PATIENCE, then PEAK, SPIN, IDLE of each disk: what is above LIMIT ends just ahead of a start. */
+  private static final int[][] RUNS_AHEAD = {
+    {20, 2, 8, 3, 4, 9, 4, 0, 3, 2, 5, 7, 2, 2, 8, 5, 1},
+    {7, 1, 1, 1, 4, 4, 4, 2, 5, 2, 0, 4, 2, 0, 5, 1, 1},
+    {27, 4, 4, 3, 1, 5, 1, 7, 27, 9, 4, 10, 5, 8, 17, 5, 2},
+    {12, 1, 11, 1, 1, 1, 1, 2, 7, 1, 2, 8, 2, 1, 11, 1, 0},
+    {24, 1, 11, 2, 1, 12, 1, 1, 8, 1, 4, 9, 2, 5, 2, 1, 4},
+    {21, 1, 7, 3, 0, 10, 2, 4, 9, 2, 4, 4, 1, 7, 7, 2, 0},
+    {25, 3, 9, 3, 1, 9, 4, 0, 4, 2, 7, 9, 1, 4, 10, 4, 4},
+    {6, 7, 3, 8, 1, 7, 5, 1, 7, 4, 1, 2, 4, 3},
+  };
+
   public static void main(String[] args) {
-    int rounds = args.length > 0 ? Integer.parseInt(args[0]) : 1500;
+    int rounds = args.length > 0 ? Integer.parseInt(args[0]) : 2500;
+    for (int[] kinds : RUNS_AHEAD) {
+      compareRunAhead(kinds);
+    }
     Random random = new Random(6661);
     for (int round = 0; round < rounds && Check.isClean(); round++) {
       Staggershelf program = new Staggershelf();
@@ -25,14 +40,32 @@ public final class PlanTest {
         most = Math.max(most, peak);
         idles += idle;
       }
-      // Fuses so thin that the order counts, and some that no order passes.
-      int limit = Math.max(1, Math.min(90, Math.max(most, idles) - 2 + random.nextInt(20)));
-      int patience = random.nextInt(10) * random.nextInt(2);
+      // Fuses so thin that the order counts, and some that no order passes; a little patience, so
+      // that runs of tenths above the limit end just ahead of a start.
+      int least = random.nextBoolean() ? Math.max(most, idles) - 2 : idles;
+      int limit = Math.max(1, Math.min(90, least + random.nextInt(20)));
+      int patience = random.nextInt(3) == 0 ? random.nextInt(10) : random.nextInt(3);
       program.fuse(limit, patience);
       model.fuse(limit, patience);
       compare("round " + round + " ", program, model);
     }
     Check.end("PlanTest");
+  }
+
+  private static void compareRunAhead(int[] kinds) {
+    Staggershelf program = new Staggershelf();
+    Model model = new Model();
+    int disks = kinds.length / 3;
+    program.shelf(disks, 1);
+    model.shelf(disks, 1);
+    for (int disk = 0; disk < disks; disk++) {
+      int at = 2 + 3 * disk;
+      program.kind(disk, kinds[at], kinds[at + 1], kinds[at + 2]);
+      model.kind(disk, kinds[at], kinds[at + 1], kinds[at + 2]);
+    }
+    program.fuse(kinds[0], kinds[1]);
+    model.fuse(kinds[0], kinds[1]);
+    compare("runs ahead ", program, model);
   }
 
   private static void compare(String label, Staggershelf program, Model model) {

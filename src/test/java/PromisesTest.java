@@ -619,6 +619,10 @@ public final class PromisesTest {
     x.kind(3, 10, 9, 2);
     due(9, "power(): the one that spins longest is not left for last", x::power);
     due(0, "ofDisk(3, 6)", () -> x.ofDisk(3, 6));
+    x.off();
+    x.fuse(90, 0);
+    x.kind(1, 1, 1, 1);
+    due(9, "power() with another kind", x::power);
     x.write(1, 5, 2);
     x.fail(0);
     x.power();
@@ -727,7 +731,21 @@ public final class PromisesTest {
     x.swap(1);
     due(0, "ofDisk(1, 0)", () -> x.ofDisk(1, 0));
     due(2, "ofDisk(1, 2)", () -> x.ofDisk(1, 2));
-    x.fuse(19, 3);
+    // Above LIMIT for two tenths, PATIENCE 2: one more directly behind them would trip it.
+    x.shelf(5, 1);
+    x.kind(0, 8, 3, 4);
+    x.kind(1, 9, 4, 0);
+    x.kind(2, 3, 2, 5);
+    x.kind(3, 7, 2, 2);
+    x.kind(4, 8, 5, 1);
+    x.fuse(20, 2);
+    int[][] plan = {{3, 3}, {0, 0}, {3, 4}, {0, 1}, {0, 2}};
+    for (int d = 0; d < 5; d++) {
+      int disk = d;
+      due(plan[d][0], "ofDisk(" + d + ", 6)", () -> x.ofDisk(disk, 6));
+      due(plan[d][1], "ofDisk(" + d + ", 7)", () -> x.ofDisk(disk, 7));
+    }
+    x.fuse(11, 0);
     due(-1, "ofDisk(1, 6)", () -> x.ofDisk(1, 6));
     due(-1, "ofDisk(0, 7)", () -> x.ofDisk(0, 7));
   }
