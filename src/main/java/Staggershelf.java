@@ -910,22 +910,27 @@ public final class Staggershelf {
         return;
       }
       for (int disk = 0; disk < disks && disk < MOST_DISKS; disk++) {
-        if (triedPlaces[disk] != NONE) {
-          continue;
+        if (triedPlaces[disk] == NONE) {
+          tryDisk(disk, place, earliest, end);
         }
-        int start = leastStart(disk, place, earliest, end);
-        int endThen = Math.max(end, start + spinOf(disk));
-        // An end only grows by further disks: what is not ahead of the best here never will be.
-        if (start == NONE || planEnd != NONE && endThen >= planEnd) {
-          continue;
-        }
-        triedPlaces[disk] = place;
-        triedStarts[disk] = start;
-        addDraw(disk, start, 1);
-        tryPlace(place + 1, start, endThen);
-        addDraw(disk, start, -1);
-        triedPlaces[disk] = NONE;
       }
+    }
+
+    /** The recursion with tryPlace is as deep as there are disks. */
+    private void tryDisk(int disk, int place, int earliest, int end) {
+      int start = leastStart(disk, place, earliest, end);
+      int endThen = Math.max(end, start + spinOf(disk));
+      // An end only grows by further disks: what is not ahead of the best here never will be.
+      boolean isWorse = planEnd != NONE && endThen >= planEnd;
+      if (start == NONE || isWorse || disk < 0 || disk >= MOST_DISKS) {
+        return;
+      }
+      triedPlaces[disk] = place;
+      triedStarts[disk] = start;
+      addDraw(disk, start, 1);
+      tryPlace(place + 1, start, endThen);
+      addDraw(disk, start, -1);
+      triedPlaces[disk] = NONE;
     }
 
     private void keepTried(int end) {

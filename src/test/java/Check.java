@@ -43,6 +43,11 @@ final class Check {
     same(what, "throws.IllegalStateException", call);
   }
 
+  /** How many answers have been compared so far. */
+  static int compared() {
+    return compared;
+  }
+
   static boolean isClean() {
     return wrong == 0;
   }

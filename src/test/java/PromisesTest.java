@@ -43,6 +43,7 @@ public final class PromisesTest {
     new PromisesTest(25).isSound();
     new PromisesTest(26).knock();
     new PromisesTest(27).digest();
+    new PromisesTest(27).digestWithoutPlan();
     Check.end("PromisesTest");
   }
 
@@ -957,22 +958,25 @@ public final class PromisesTest {
   /** By the document's words, from the answers of the other methods. */
   private long digestDue() {
     long d = 6661;
+    int disks = x.house(0);
+    int stripes = x.house(1);
+    int blocks = x.house(2);
     for (int what = 0; what < 17; what++) {
       d = 31 * d + x.house(what);
     }
-    for (int disk = 0; disk < x.house(0); disk++) {
+    for (int disk = 0; disk < disks; disk++) {
       for (int what = 0; what < 8; what++) {
         d = 31 * d + x.ofDisk(disk, what);
       }
     }
-    for (int stripe = 0; stripe < x.house(1); stripe++) {
-      for (int disk = 0; disk < x.house(0); disk++) {
+    for (int stripe = 0; stripe < stripes; stripe++) {
+      for (int disk = 0; disk < disks; disk++) {
         for (int what = 0; what < 5; what++) {
           d = 31 * d + x.cell(disk, stripe, what);
         }
       }
     }
-    for (int block = 0; block < x.house(2); block++) {
+    for (int block = 0; block < blocks; block++) {
       for (int what = 0; what < 4; what++) {
         d = 31 * d + x.ofBlock(block, what);
       }
@@ -998,6 +1002,10 @@ public final class PromisesTest {
     due(digestDue(), "digest()", x::digest);
     long before = x.digest();
     due(before, "digest() again", x::digest);
+  }
+
+  private void digestWithoutPlan() {
+    x.shelf(4, 3);
     x.fuse(1, 0);
     due(digestDue(), "digest() without a plan", x::digest);
   }
