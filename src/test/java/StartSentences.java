@@ -133,6 +133,10 @@ final class StartSentences extends Sentences {
     // At LIMIT ahead of the start, above it for one tenth from the start on.
     kinds(9, 3, 0, 5, 9, 0, 1, 1, 0);
     planned(11, new int[] {0, 2, 2}, new int[] {0, 1, 2});
+    // Above LIMIT for one tenth ahead of the start, and for one more: PATIENCE lasts that long, and no longer.
+    x.fuse(4, 2);
+    kinds(2, 3, 0, 6, 2, 0, 1, 2, 3);
+    planned(3, new int[] {0, 0, 1}, new int[] {0, 1, 2});
     // There is no such start for the last one, whichever it is; or there is.
     x.shelf(5, 1);
     kinds(10, 3, 2, 10, 3, 2, 10, 3, 2, 10, 3, 2, 10, 3, 2);
